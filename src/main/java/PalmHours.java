@@ -57,6 +57,7 @@ public final class PalmHours {
     private int drawn = 1;
 
     public PalmHours() {
+        begin();
     }
 
     // ---- the tape, the town
@@ -594,10 +595,13 @@ public final class PalmHours {
     }
 
     private int findHeld(int corner) {
+        // All that was SEEN must be so: at the other CORNERS by what is in their palms.
         for (int other = 0; other < told.corners; other++) {
-            int last = foresee(other, hours, MOST_SEEN_AHEAD);
-            if (other != corner && !seen.isSo(other, hours, last)) {
-                return 0;
+            if (other != corner && seen.isAbout(other)) {
+                int last = foresee(other, hours, MOST_SEEN_AHEAD);
+                if (!seen.isSo(other, hours, last)) {
+                    return 0;
+                }
             }
         }
         int left = 0;
@@ -854,7 +858,10 @@ public final class PalmHours {
         }
     }
 
-    /** A SUM or a TEST, its parts ahead of what joins them; a step from 0 on is a number, a TEST gives 1 or 0. */
+    /**
+     * A SUM or a TEST, its parts ahead of what joins them, so that no recursion is needed to work it out.
+     * A step from 0 on is a number; a TEST gives 1 or 0.
+     */
     private static final class Formula {
         static final int WEIGH = -1;
         static final int HELD = -2;
@@ -1303,7 +1310,8 @@ public final class PalmHours {
 
         private boolean readPair(int open, int step) {
             tokens.advance();
-            return goIn('(', open) && readSum(open + 1) && tokens.skip(',') && readSum(open + 1) && tokens.skip(')') && add(step);
+            return goIn('(', open) && readSum(open + 1) && tokens.skip(',')
+                && readSum(open + 1) && tokens.skip(')') && add(step);
         }
 
         private boolean readChoice(int open) {
@@ -1767,6 +1775,15 @@ public final class PalmHours {
             return true;
         }
 
+        boolean isAbout(int corner) {
+            for (int k = 0; k < count; k++) {
+                if (corners[k] == corner) {
+                    return true;
+                }
+            }
+            return false;
+        }
+
         /** Whether a CORNER with these HOURS, told up to the last MINUTE ahead, is as it was SEEN. */
         boolean isSo(int corner, int[] toldHours, int last) {
             for (int k = 0; k < count; k++) {
@@ -1791,16 +1808,19 @@ public final class PalmHours {
 
         /** How many of the choices that are left tell the HOUR that most of them tell. */
         int mostLeft(int left, int minutesAhead) {
+            if (minutesAhead < 0 || minutesAhead > MOST_SEEN_AHEAD) {
+                return 0;
+            }
             int most = 0;
             for (int one = 0; one < CHOICES; one++) {
-                int count = 0;
+                int alike = 0;
                 for (int other = 0; other < CHOICES; other++) {
                     boolean areLeft = (left >> one & 1) == 1 && (left >> other & 1) == 1;
                     if (areLeft && hoursBy[one][minutesAhead] == hoursBy[other][minutesAhead]) {
-                        count++;
+                        alike++;
                     }
                 }
-                most = Math.max(most, count);
+                most = Math.max(most, alike);
             }
             return most;
         }

@@ -200,6 +200,11 @@ public final class PromisesTest {
         fault(1, "corner a@B;");
         fault(1, "corner a@1;");
         fault(1, "corner a @b;");
+        fault(1, "corner @;");
+        fault(1, "thing @weigh 1 lasts 1;");
+        fault(1, "corner a;doing @at a hour 1;");
+        fault(1, "corner a;doing b at @hour 1;");
+        fault(1, "corner a;palm @has a;");
         fault(1, "thing a @lasts");
         fault(1, "thing a weigh 1 @weigh");
         fault(1, "thing a weigh 1@lasts 1;");
@@ -295,6 +300,14 @@ public final class PromisesTest {
         fault(5, "gone not not not not not not not @not all;");
         fault(5, "gone not [not [not [not @[all");
         fault(5, "gone not not not not (((@(1");
+        fault(5, "says min(1,((((((@(1");
+        fault(5, "says max(1,((((((@(1");
+        fault(5, "says if(all,((((((@(1");
+        fault(5, "says if(all,1,((((((@(1");
+        fault(5, "says 1+2*(((((((@(1");
+        fault(5, "gone all or (((((((@(1");
+        fault(5, "gone all and (((((((@(1");
+        fault(5, "gone 1<(((((((@(1");
         fault(1, "says (((((((1@(");
         fault(1, "says (((((((1)))))))@)");
         fault(1, "gone not not not not not not not@");
@@ -661,6 +674,16 @@ public final class PromisesTest {
         due("14: the same behind twenty", x.plan(1, 20, 1), 0);
         x.give(1, 1);
         due("14: it was so", x.doing(0, 2), 1);
+        x = made("thing a weigh 3 lasts 9;corner c;corner d;doing e at d hour 0;says weigh;");
+        Check.put(x, Check.bytes(0, 0, 255, 0, 0, 255, 0, 0, 0, check(0, 0, 255, 0, 0, 255, 0, 0, 0)));
+        due("14: the image", x.on(), true);
+        due("14: the first CORNER, since the last one must stay empty", x.plan(1, 0, 0), 0);
+        due("14: the first CORNER, since the last one must stay empty", x.plan(1, 0, 1), NONE);
+        due("14: a MINUTE does it, too", x.plan(1, 1, NONE), 0);
+        x = made("thing a weigh 3 lasts 9;corner c;doing e at c hour 0;says weigh;");
+        Check.put(x, Check.bytes(0, 0, 255, 0, 0, 0, check(0, 0, 255, 0, 0, 0)));
+        due("14: the image", x.on(), true);
+        due("14: nothing can be given", x.plan(1, 0, NONE), NONE);
     }
 
     private static void promise15() {
