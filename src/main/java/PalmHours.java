@@ -1227,10 +1227,14 @@ public final class PalmHours {
         }
 
         private boolean goIn(int kind, int open) {
-            if (tokens.kind == kind && open >= MOST_OPEN) {
+            if (tokens.kind != kind) {
+                return tokens.failHere();
+            }
+            if (open >= MOST_OPEN) {
                 return tokens.fail(Tokens.TOO_DEEP, tokens.start);
             }
-            return tokens.skip(kind);
+            tokens.advance();
+            return true;
         }
 
         private boolean add(int step) {
