@@ -8,6 +8,8 @@ public final class RandomRunsTest {
         "doing", "at", "hour", "says", "gone", "pass", "held", "minute", "empty", "if", "or", "and", "not", "all",
         "min", "max", "zz", "longest", "sixsix", "12345", "9999", "100", "0", "24", "1", ";", "(", ")", "[", "]",
         ",", "+", "-", "*", "/", "%", "<", ">", "=", "#", "A", "\t", "\u00e9"};
+    private static final String[] DEEP = {"((((", "(((((((", "((((((((", "[[[", "[[[[[[[", "not not not ", "not not not not not not not ",
+        "min(1,max(2,(", "if(not not all,((((", "if([[all]],1,(((", "+(((((((1)))))))+"};
 
     private final Random random;
     private final PalmHours x = new PalmHours();
@@ -142,8 +144,10 @@ public final class RandomRunsTest {
         StringBuilder s = new StringBuilder(text);
         for (int k = 1 + below(2); k > 0; k--) {
             int at = below(s.length() + 1);
-            switch (below(6)) {
+            switch (below(8)) {
                 case 0: s.setLength(at); break;
+                case 6: insertDeep(s); break;
+                case 7: s.insert(s.indexOf(";", at) + 1, "pass 1;".repeat(50 + below(31))); break;
                 case 1: s.insert(at, SPARE[below(SPARE.length)]); break;
                 case 2: s.insert(at, " " + SPARE[below(SPARE.length)] + " "); break;
                 case 3: if (at < s.length()) { s.deleteCharAt(at); } break;
@@ -159,6 +163,13 @@ public final class RandomRunsTest {
             }
         }
         return s.toString();
+    }
+
+    private void insertDeep(StringBuilder s) {
+        int word = s.indexOf(oneIn(2) ? "says " : "gone ");
+        if (word >= 0) {
+            s.insert(word + 5, DEEP[below(DEEP.length)] + (oneIn(3) ? DEEP[below(DEEP.length)] : ""));
+        }
     }
 
     private void due(String call, long got, long want) {
