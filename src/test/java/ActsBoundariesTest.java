@@ -701,6 +701,23 @@ public final class ActsBoundariesTest extends Boundaries {
         due("SEEN", x.has(8), 1);
     }
 
+    static void promise32EachPalmAndEachDoing() {
+        PalmHours x = made(SMALL);
+        due("on()", on(x, image(1, 2, 255, 1, 3, 0, 0, 4, 1, 2, 5, 0, 1)), true);
+        int[] things = {NONE, 0, 1};
+        int[] held = {259, 4, 517};
+        for (int corner = 0; corner < 3; corner++) {
+            due("THING of " + corner, x.corner(corner, 0), things[corner]);
+            due("held at " + corner, x.corner(corner, 1), held[corner]);
+        }
+        due("the first is not done", x.doing(0, 2), 0);
+        due("the second is", x.doing(1, 2), 1);
+        due("one is done", x.has(5), 1);
+        due("image()", x.image(), 14);
+        due("not done", x.octet(11), 0);
+        due("done", x.octet(12), 1);
+    }
+
     static void promise32ItsOwnImage() {
         PalmHours x = busy();
         x.give(0, 1);

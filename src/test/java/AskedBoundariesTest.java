@@ -227,6 +227,16 @@ public final class AskedBoundariesTest extends Boundaries {
         due("61", x.when(2), NONE);
     }
 
+    static void promise12BehindOneMinute() {
+        due("1", made("corner c;says minute;doing d at c hour 1;").when(0), 1);
+    }
+
+    static void promise12NotDoneThoughItsHourIsTold() {
+        PalmHours x = made("corner c;says minute%5;doing d at c hour 0;");
+        due("on()", on(x, image(0, 0, 255, 0, 0, 0)), true);
+        due("0 would be: it is done", x.when(0), 5);
+    }
+
     static void promise12TheFirstOfTwo() {
         PalmHours x = made("corner c;says minute%7;doing d at c hour 3;");
         due("behind three, not ten", x.when(0), 3);
@@ -339,6 +349,9 @@ public final class AskedBoundariesTest extends Boundaries {
         due("bit 31", x.plan(LEAST, 0, NONE), NONE);
         due("all bits", x.plan(-1, 0, NONE), NONE);
         due("all bits but 31", x.plan(MOST, 0, NONE), NONE);
+        x = made("corner c;doing d at c hour 0;");
+        due("all bits, though all there are is done", x.plan(-1, 0, NONE), NONE);
+        due("bit 31 and one that is done", x.plan(LEAST + 1, 0, NONE), NONE);
     }
 
     static void promise14NoSuchCorner() {
@@ -500,6 +513,13 @@ public final class AskedBoundariesTest extends Boundaries {
         due("given", x.odds(0, 9, 2), 3240000L);
     }
 
+    static void promise16WhatIsGivenGetsOlder() {
+        PalmHours x = made("thing a weigh 3 lasts 1;corner c;pass 50;");
+        due("given in the second MINUTE", x.odds(0, 3, 2), 100 * 50);
+        x = made("thing a weigh 3 lasts 2;corner c;pass 50;");
+        due("given in either", x.odds(0, 3, 2), 100 * 100 - 50 * 50);
+    }
+
     static void promise16WithoutThings() {
         PalmHours x = made("corner c;pass 100;");
         due("all rows", x.odds(0, NONE, 1), NONE);
@@ -630,6 +650,10 @@ public final class AskedBoundariesTest extends Boundaries {
         due("less at another CORNER", made("corner a;corner b;road a to b steps 1;says if(corner=1,9-minute,9);").early(0), NONE);
     }
 
+    static void promise19NowIsNotTheFirstMinute() {
+        due("5 9 7: not less than 5", made("corner a;corner b;road a to b steps 1;says if(minute=0,5,if(minute=1,9,7));").early(0), NONE);
+    }
+
     static void promise19WithoutRoads() {
         due("none", made("corner a;corner b;corner c;road b to c steps 1;says 9-minute;").early(0), NONE);
     }
@@ -727,6 +751,26 @@ public final class AskedBoundariesTest extends Boundaries {
         due("six THINGS", made(many("thing t", 'a', 'f', " weigh 1 lasts 1;") + "corner c;").held(0), 127);
     }
 
+    static void promise21SixteenRows() {
+        PalmHours x = made("thing a weigh 3 lasts 15;thing b weigh 3 lasts 16;corner c;");
+        int[] rows = new int[48];
+        for (int k = 0; k < 16; k++) {
+            rows[3 * k] = k;
+            rows[3 * k + 2] = 3;
+        }
+        due("see()", see(x, rows), 16);
+        due("the last one tells b from a", x.held(0), 4);
+    }
+
+    static void promise21ARowOfAnotherCorner() {
+        PalmHours x = made(SMALL);
+        see(x, 0, 1, 5, 0, 0, 12);
+        due("as it is there", x.held(0), 2);
+        see(x, 0, 0, 12, 0, 1, 12);
+        due("not as it is there", x.held(0), 0);
+        due("but it could be", x.held(1), 2);
+    }
+
     static void promise21NotByAny() {
         PalmHours x = made(SMALL);
         see(x, 0, 0, 7);
@@ -803,6 +847,14 @@ public final class AskedBoundariesTest extends Boundaries {
         x = made(text + "says if(held<41,1,weigh);");
         due("41 is too late", x.tells(0, 0), 0);
         due("both are left", x.tells(0, 1), 2);
+    }
+
+    static void promise22SixThings() {
+        PalmHours x = made(many("thing t", 'a', 'f', " weigh 1 lasts 99;") + "corner c;");
+        due("now", x.tells(0, 0), 0);
+        due("all but none", x.tells(0, 1), 6);
+        x = made(many("thing t", 'a', 'f', " weigh 0 lasts 99;") + "corner c;");
+        due("all seven", x.tells(0, 1), 7);
     }
 
     static void promise22OfLikeOnesTheFirst() {
