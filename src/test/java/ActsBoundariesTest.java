@@ -254,6 +254,27 @@ public final class ActsBoundariesTest extends Boundaries {
         due("what was given stays", x.corner(0, 0), 0);
     }
 
+    static void term2ActsInTheFullestTown() {
+        PalmHours x = made(FULL);
+        for (int corner = 0; corner < 5; corner++) {
+            due("give", x.give(corner, corner), corner + 1);
+        }
+        due("done", x.has(5), 5);
+        due("the last DOING", x.give(4, 5), 6);
+        due("all are done", x.has(5), 6);
+        due("all are KEPT", x.kept(5, 1), 5);
+        due("minutes", x.minutes(9), 0);
+        due("all palms are empty", x.has(6), 5);
+        due("chance", x.chance(100), 100);
+        due("undone", x.undo(), true);
+        due("all palms are empty", x.has(6), 5);
+        for (int k = 0; k < 7; k++) {
+            due("undone", x.undo(), true);
+        }
+        due("none is done", x.has(5), 0);
+        due("one palm has its THING", x.corner(4, 0), 0);
+    }
+
     // ---- promises 23 to 29: acts
 
     private static void isRefused(PalmHours x, String ahead, String refusals) {
@@ -716,6 +737,27 @@ public final class ActsBoundariesTest extends Boundaries {
         due("image()", x.image(), 14);
         due("not done", x.octet(11), 0);
         due("done", x.octet(12), 1);
+    }
+
+    static void promise32TheLargest() {
+        PalmHours x = made(FULL);
+        int[] bytes = new int[23];
+        bytes[0] = 39;
+        bytes[1] = 15;
+        for (int corner = 0; corner < 5; corner++) {
+            bytes[2 + 3 * corner] = 5 - corner;
+            bytes[3 + 3 * corner] = 3;
+            bytes[4 + 3 * corner] = 231 - corner;
+        }
+        Arrays.fill(bytes, 17, 23, 1);
+        due("on()", on(x, image(bytes)), true);
+        due("all are done", x.has(5), 6);
+        due("the last palm", x.corner(4, 0), 1);
+        due("held", x.corner(4, 1), 995);
+        due("image()", x.image(), 24);
+        for (int k = 0; k < 23; k++) {
+            due("byte " + k, x.octet(k), bytes[k]);
+        }
     }
 
     static void promise32ItsOwnImage() {

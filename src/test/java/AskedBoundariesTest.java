@@ -48,6 +48,57 @@ public final class AskedBoundariesTest extends Boundaries {
         due("all stays", (all(x) + refusals(x)).equals(ahead), true);
     }
 
+    static void term3TheFullestTown() {
+        PalmHours x = made(FULL);
+        int[] counts = {6, 5, 10, 6, 0, 0, 4, 0, 0, 0, 1};
+        for (int what = 0; what <= 10; what++) {
+            due("has " + what, x.has(what), counts[what]);
+        }
+        due("the last THING", x.thing(5, 0), 6);
+        due("the last DOING", x.doing(5, 0), 4);
+        due("later", x.later(4, 8), 1);
+        due("gone", x.later(4, 9), 0);
+        due("when", x.when(5), NONE);
+        due("alike", x.alike(0, 4), 9);
+        due("evening", x.evening(4, 1), 8);
+        due("way", x.way(0, 4), 1);
+        due("early", x.early(4), 9);
+        due("held", x.held(4), 127);
+        due("tells", x.tells(4, 1), 1);
+        due("odds", x.odds(4, 6, 1), 100);
+    }
+
+    static void term3AFullPlan() {
+        PalmHours x = made(FULL);
+        due("for nothing", x.plan(0, 20, NONE), 0);
+        due("five DOINGS", x.plan(31, 0, NONE), 5);
+        for (int corner = 0; corner < 5; corner++) {
+            due("THING for " + corner, x.plan(31, 0, corner), corner);
+        }
+        due("another at the last CORNER", x.plan(47, 20, 4), 5);
+        due("both at the last CORNER", x.plan(63, 20, NONE), NONE);
+    }
+
+    static void term3SixteenRowsOfFiveCorners() {
+        PalmHours x = made(FULL);
+        int[] rows = new int[48];
+        for (int k = 0; k < 16; k++) {
+            rows[3 * k] = k % 9;
+            rows[3 * k + 1] = k % 5;
+            rows[3 * k + 2] = k % 5 == 4 ? 1 : 0;
+        }
+        due("see()", see(x, rows), 16);
+        due("none", x.held(0), 1);
+        due("the first THING", x.held(4), 2);
+        rows[46] = 4;
+        see(x, rows);
+        due("the last row is not so", x.held(0), 0);
+        due("nor by any", x.held(4), 0);
+        see(x, new int[48]);
+        due("sixteen of one CORNER", x.held(0), 1);
+        due("any at another", x.held(4), 127);
+    }
+
     private static void ask(PalmHours x, int a) {
         x.fault(a);
         x.has(a);

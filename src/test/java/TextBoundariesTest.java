@@ -180,12 +180,47 @@ public final class TextBoundariesTest extends Boundaries {
         }
     }
 
+    /** Each byte behind a text that goes on with no sign, or with some alone. */
+    private static void noSignGoesOn(String text, String signs) {
+        for (int sign = 0; sign < 256; sign++) {
+            boolean isWordOrBlank = sign >= 'a' && sign <= 'z' || sign >= '0' && sign <= '9' || sign == 10 || sign == 32;
+            if (!isWordOrBlank && signs.indexOf(sign) < 0) {
+                PalmHours x = new PalmHours();
+                due("town " + text + sign, Check.town(x, text + (char) sign + ";"), NONE);
+                due("fault(0) of " + text + sign, x.fault(0), 1);
+                due("fault(1) of " + text + sign, x.fault(1), text.length());
+            }
+        }
+    }
+
+    static void term1BytesThatAreNoSign() {
+        noSignGoesOn("", "");
+        noSignGoesOn("corner ", "");
+        noSignGoesOn("corner a", ";");
+        noSignGoesOn("pass ", "");
+        noSignGoesOn("pass 1", ";");
+        noSignGoesOn("corner a;palm ", "");
+        noSignGoesOn("corner a;palm a ", "");
+        noSignGoesOn("says ", "(");
+        noSignGoesOn("says 1", "+-*/%;");
+        noSignGoesOn("says 1+", "(");
+        noSignGoesOn("says min", "(");
+        noSignGoesOn("says min(1", "+-*/%,");
+        noSignGoesOn("gone ", "([");
+        noSignGoesOn("gone all ", ";");
+        noSignGoesOn("gone [all", "]");
+        noSignGoesOn("gone 1", "+-*/%<>=");
+        noSignGoesOn("gone 1=1", "+-*/%;");
+    }
+
     static void term1WordsAndNumbersSideBySideNeedABlank() {
         fault(1, "pass@1;");
         fault(1, "thing a weigh 1@lasts 1;");
         fault(1, "thing a weigh@1 lasts 1;");
         fault(1, "gone 1<2@or all;");
         fault(1, "corner a@1;");
+        fault(1, "pass 1@abcdefg;");
+        fault(1, "corner a@12345;");
         good(1, "says(1)+min(2,3)*if(1<2,3,4);");
         good(1, "gone[all]or[all]and not[all];");
     }
@@ -258,6 +293,20 @@ public final class TextBoundariesTest extends Boundaries {
         }
     }
 
+    static void term1AStatementEndsTooSoon() {
+        String all = "thing t weigh 1 lasts 1;corner a;corner b;";
+        String[] statements = {"thing@;", "thing c@;", "thing c weigh@;", "thing c weigh 1@;", "thing c weigh 1 lasts@;",
+            "corner@;", "road@;", "road a@;", "road a to@;", "road a to b@;", "road a to b steps@;",
+            "palm@;", "palm a@;", "palm a has@;", "doing@;", "doing d@;", "doing d at@;", "doing d at a@;", "doing d at a hour@;",
+            "pass@;", "says@;", "says 1+@;", "says 1*@;", "says (@;", "says (1@;", "says min@;", "says min(@;", "says min(1@;",
+            "says min(1,@;", "says max(1,2@;", "says if(@;", "says if(all@;", "says if(all,@;", "says if(all,1@;",
+            "says if(all,1,@;", "says if(all,1,2@;", "gone@;", "gone 1@;", "gone 1<@;", "gone not@;", "gone [@;", "gone [all@;",
+            "gone all or@;", "gone all and@;"};
+        for (String statement : statements) {
+            fault(1, all + statement);
+        }
+    }
+
     static void term1AWordIsWhole() {
         fault(1, "@corne");
         fault(1, "@corne r a;");
@@ -322,6 +371,13 @@ public final class TextBoundariesTest extends Boundaries {
         fault(1, "says if(@lasts=1,1,2);");
     }
 
+    static void term1SaysBehindGoneAndGoneBehindSays() {
+        good(2, "gone lasts=1;says empty;");
+        good(2, "says empty;gone lasts=1;");
+        fault(1, "gone lasts=1;says @lasts;");
+        fault(1, "says empty;gone @empty=1;");
+    }
+
     static void term1ResultsAboveAMillion() {
         holds("1000*1000=1000*999+1000", true);
         holds("1000*1000>1000*999+999", true);
@@ -381,6 +437,23 @@ public final class TextBoundariesTest extends Boundaries {
         holds("1=2", false);
         holds("2=2", true);
         holds("3=2", false);
+    }
+
+    static void term1FactsThatAreJoined() {
+        String[] yes = {"all", "1<2", "not 2<1", "[all]"};
+        String[] no = {"not all", "2<1", "not 1<2", "[2<1]"};
+        for (int k = 0; k < 4; k++) {
+            for (int j = 0; j < 4; j++) {
+                holds(yes[k] + " and " + yes[j], true);
+                holds(yes[k] + " and " + no[j], false);
+                holds(no[k] + " and " + yes[j], false);
+                holds(no[k] + " and " + no[j], false);
+                holds(yes[k] + " or " + yes[j], true);
+                holds(yes[k] + " or " + no[j], true);
+                holds(no[k] + " or " + yes[j], true);
+                holds(no[k] + " or " + no[j], false);
+            }
+        }
     }
 
     // ---- promises 1 to 3: a new object, the tape
@@ -571,6 +644,55 @@ public final class TextBoundariesTest extends Boundaries {
         due("no gone", x.give(0, 0) + x.later(0, 8), 14);
         due("no palm", x.corner(1, 0), NONE);
         due("no ROAD", x.way(0, 1), NONE);
+    }
+
+    /** What a new object answers to all questions by a text, an object answers that was told others ahead of it. */
+    private static void isAsNew(PalmHours x, String text) {
+        PalmHours fresh = new PalmHours();
+        due("town " + text, Check.town(x, text), Check.town(fresh, text));
+        due("fault(0) of " + text, fresh.fault(0), 0);
+        for (int round = 0; round < 3; round++) {
+            due("image", x.image(), fresh.image());
+            due("all is as of a new one", all(x).equals(all(fresh)), true);
+            due("what is asked is as of a new one", asked(x).equals(asked(fresh)), true);
+            due("minutes", x.minutes(3), fresh.minutes(3));
+        }
+    }
+
+    private static String asked(PalmHours x) {
+        StringBuilder s = new StringBuilder();
+        for (int a = 0; a < 6; a++) {
+            s.append(x.when(a)).append(' ').append(x.early(a)).append(' ').append(x.plan(1 << a, 9, NONE)).append(' ');
+            for (int b = 0; b < 6; b++) {
+                s.append(x.way(a, b)).append(' ').append(x.arrive(a, b)).append(' ').append(x.alike(a, b)).append(' ');
+                s.append(x.evening(a, b)).append(' ').append(x.tells(a, b)).append(' ').append(x.odds(a, b, 2)).append(' ');
+                s.append(x.plan(63 >> a, 9, b)).append(' ');
+            }
+        }
+        return s.toString();
+    }
+
+    static void promise04ToldThrice() {
+        PalmHours x = new PalmHours();
+        for (int k = 0; k < 4; k++) {
+            isAsNew(x, SMALL);
+            isAsNew(x, FULL);
+            isAsNew(x, FULL);
+        }
+    }
+
+    static void promise04ASmallerTownBehindTwoLargerOnes() {
+        String[] smaller = {"", "corner a;", "thing t weigh 7 lasts 9;corner a;", SMALL,
+            "corner a;corner b;corner c;corner d;says 20-minute;road a to d steps 2;doing e at b hour 18;"};
+        for (String text : smaller) {
+            PalmHours x = made(FULL);
+            Check.town(x, FULL);
+            isAsNew(x, text);
+            x = made(FULL);
+            Check.town(x, FULL);
+            Check.town(x, FULL + "#");
+            isAsNew(x, text);
+        }
     }
 
     static void promise04NothingOfAFaultyTextStays() {

@@ -17,6 +17,9 @@ class Boundaries {
     static final String SMALL = "thing plum weigh 12 lasts 3;thing stone weigh 5 lasts 99;corner ash;corner bay;corner cod;"
         + "road ash to bay steps 4;palm ash has plum;palm bay has stone;doing noon at ash hour 12;doing tea at cod hour 5;";
 
+    /** As many of all as there can be: THINGS of 1 to 6, all CORNERS one step apart, a DOING for each THING's HOUR. */
+    static final String FULL = full();
+
     private static String test = "";
 
     /** Runs every test of a class, so that none is left out of a list. */
@@ -142,6 +145,16 @@ class Boundaries {
             s.append(first).append(c).append(rest);
         }
         return s.toString();
+    }
+
+    private static String full() {
+        StringBuilder s = new StringBuilder(many("corner c", 'a', 'e', ";")).append(allRoads());
+        for (char c = 'a'; c <= 'f'; c++) {
+            int number = c - 'a' + 1;
+            s.append("thing t").append(c).append(" weigh ").append(number).append(" lasts 9;");
+            s.append("doing d").append(c).append(" at c").append(c == 'f' ? 'e' : c).append(" hour ").append(number).append(';');
+        }
+        return s.append("palm ce has ta;pass 100;").toString();
     }
 
     static String allRoads() {
